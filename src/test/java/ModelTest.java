@@ -33,7 +33,7 @@ public final class ModelTest {
             }
         }
         for (int call = 0; call < good.length; call++) {
-            if (good[call] < 100) {
+            if (good[call] < 200) {
                 wrong++;
                 System.out.println(Calls.NAMES[call] + " was answered without an ERROR just " + good[call] + " times");
             }
@@ -47,7 +47,7 @@ public final class ModelTest {
     /** The acts that build a county come more often, that the others find one. */
     private static int preferred(Draws draws) {
         String[] names = {"ash", "potter", "store", "store", "lend", "lend", "lend", "days", "put", "text", "tell",
-            "breaks", "breaks", "breaks", "lender"};
+            "breaks", "lender"};
         String name = names[draws.upTo(names.length - 1)];
         for (int i = 0; i < Calls.NAMES.length; i++) {
             if (Calls.NAMES[i].equals(name)) {
@@ -64,6 +64,10 @@ public final class ModelTest {
             if (draws.oneIn(40)) {
                 a[i] = draws.anyNumber();
             }
+        }
+        if (Calls.NAMES[call].equals("store") && !model.now.loans.isEmpty() && draws.oneIn(2)) {
+            int[] loan = model.now.loans.get(draws.upTo(model.now.loans.size() - 1));
+            return new long[] {loan[1], loan[2], draws.upTo(loan[3] + 2), 0, 0};
         }
         if (Calls.NAMES[call].equals("feed")) {
             a[0] = draws.oneIn(6) ? draws.word() : piece(draws, (int) a[1]);
