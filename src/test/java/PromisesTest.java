@@ -335,6 +335,7 @@ public final class PromisesTest {
         due.is(back("m<m"), 0);
         due.is(back("n>m"), 1);
         due.is(back("m>n"), 0);
+        due.is(back("m>m"), 0);
         due.is(back("n=7"), 1);
         due.is(back("n=8"), 0);
         due.is(back("1+1=2"), 1);
@@ -522,6 +523,9 @@ public final class PromisesTest {
         due.is(x.fire(1, 1, 0), STATE);
         due.is(x.fire(0, 40, 8), STATE);
         due.is(x.fire(0, 1000, 0), STATE);
+        due.is(x.fire(0, 400, 0), STATE);
+        due.is(x.fire(0, 1011, 0), STATE);
+        due.is(x.fire(0, 410, 8), STATE);
         due.is(x.fire(0, 10, 8), KIND);
         due.is(x.fire(0, 100, 0), KIND);
         due.is(x.count(4), 0);
@@ -686,6 +690,10 @@ public final class PromisesTest {
         due.is(x.days(61), BEYOND);
         due.is(x.loose(41), BEYOND);
         due.is(x.count(9), 1);
+        x.image();
+        due.is(x.days(39), 0);
+        due.is(x.count(3), 9999);
+        due.is(x.restore(), 9960);
         due.is(x.days(38), 0);
         due.is(x.loose(2), STATE);
         due.is(x.loose(1), 0);
@@ -861,6 +869,8 @@ public final class PromisesTest {
         due.is(x.burnt(0), 8);
         row(x, 0, 8, 4, 255);
         due.is(x.burnt(0), 1 | 4 | 8);
+        row(x, 0, 8, 0);
+        due.is(x.burnt(0), 0);
         row(x, 0, 16, 5, -30000);
         due.is(x.burnt(0), 2 | 16);
         row(x, 0, 32, 5, 7);
@@ -907,6 +917,21 @@ public final class PromisesTest {
         due.is(x.then(4, 0, 0), 25);
         due.is(x.then(6, 0, 0), 40);
         due.is(x.then(60, 1, 1), 180);
+        AshLoans y = with(3, 5, 6);
+        y.store(2, 1, 50);
+        y.lend(2, 1, 1, 20, 4);
+        due.is(y.then(4, 2, 1), 45);
+        due.is(y.then(4, 1, 1), 0);
+        due.is(y.then(4, 0, 1), 0);
+        due.is(y.then(3, 1, 1), 20);
+        due.is(y.image(), 1);
+        y.back(0);
+        y.restore();
+        due.is(y.ofLoan(0, 0), 2);
+        due.is(y.ofLoan(0, 1), 1);
+        due.is(y.ofLoan(0, 2), 1);
+        due.is(y.ofLoan(0, 3), 20);
+        due.is(y.ofLoan(0, 4), 4);
         x.store(1, 0, 25);
         due.is(x.then(5, 1, -1), 0);
         due.is(x.then(6, 1, -1), 1);
@@ -958,6 +983,17 @@ public final class PromisesTest {
         due.is(x.round(), 63);
         x.lend(2, 1, 0, 20, 5);
         due.is(x.round(), 83);
+        x = with(2, 5, 6, 7);
+        x.store(0, 0, 90);
+        x.store(0, 1, 90);
+        x.store(1, 1, 90);
+        x.store(1, 2, 90);
+        x.lend(0, 1, 0, 70, 5);
+        x.lend(1, 0, 2, 60, 5);
+        due.is(x.round(), 0);
+        x.lend(0, 1, 1, 8, 5);
+        x.lend(1, 0, 1, 7, 5);
+        due.is(x.round(), 7);
         lenders();
     }
 
@@ -1309,12 +1345,43 @@ public final class PromisesTest {
         due.is(x.stored(2, 0), 0);
         due.is(x.ofPotter(2, 1), 0);
 
+        begunAnew();
+
         due.is(x.image(), 2);
         x.days(1);
         due.is(x.restore(), 3);
         due.is(x.count(0), 2);
         due.is(x.restore(), 3);
         due.is(x.image(), 3);
+    }
+
+    /** An ASH and a POTTER that come in place of those that an IMAGE undid have nothing of them. */
+    private static void begunAnew() {
+        AshLoans x = with(1, 5);
+        x.image();
+        x.ash(66);
+        x.potter();
+        x.hedge(1, 0, 9);
+        x.hedge(1, 1, 1);
+        x.store(1, 1, 30);
+        x.store(0, 0, 10);
+        x.lend(0, 1, 0, 5, 1);
+        x.store(1, 0, 4);
+        x.days(1);
+        x.fire(1, 1, 0);
+        due.is(x.count(4), 1);
+        due.is(x.count(5), 1);
+        due.is(x.restore(), 0);
+        due.is(x.ash(12), 1);
+        due.is(x.potter(), 1);
+        due.is(x.ofAsh(1, 0), 1);
+        due.is(x.ofAsh(1, 1), 2);
+        due.is(x.ofAsh(1, 2), 0);
+        due.is(x.ofAsh(1, 3), 0);
+        due.is(x.stored(1, 0), 0);
+        due.is(x.stored(1, 1), 0);
+        due.is(x.ofPotter(1, 0), 0);
+        due.is(x.ofPotter(1, 1), 0);
     }
 
     // ---- promises 39 to 42
