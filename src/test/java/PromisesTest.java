@@ -534,10 +534,17 @@ public final class PromisesTest {
         due.is(x.stored(0, 1), 1);
         due.is(x.stored(0, 2), 3);
         due.is(x.ofPotter(0, 0), 1);
+        x.become(2, 63);
+        x.store(0, 3, 5);
+        due.is(x.fire(0, 4210, 0), (5 + 1 + 2 * (9 - 3) + 4 * (3 + 1)) % 10);
+        due.is(x.stored(0, 1), 0);
+        due.is(x.stored(0, 2), 1);
+        due.is(x.stored(0, 3), 1);
+        due.is(x.stored(0, 0), 6);
         due.is(x.fire(0, 6, 0), 4);
         due.is(x.stored(0, 0), 0);
         due.is(x.fire(0, 1, 0), STATE);
-        due.is(x.count(4), 2);
+        due.is(x.count(4), 3);
     }
 
     // ---- promises 18, 19 and 29
