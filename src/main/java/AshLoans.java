@@ -365,7 +365,7 @@ public final class AshLoans {
         }
         int set = 0;
         for (int ash = 0; ash < now.county.ashCount; ash++) {
-            if (canHaveGiven(ash, sheets[sheet])) {
+            if (canHaveGiven(now.county.ashes[ash], sheets[sheet])) {
                 set |= 1 << ash;
             }
         }
@@ -703,10 +703,11 @@ public final class AshLoans {
         return set;
     }
 
-    private boolean canHaveGiven(int ash, Sheet colours) {
+    /** A COLOUR that an ASH gave is told, FORBIDDEN or not: what may not be burnt can have been. */
+    private boolean canHaveGiven(Ash ash, Sheet colours) {
         for (int heat = 0; heat < colours.size; heat++) {
             int told = colours.numbers[heat];
-            if (told >= 0 && told != colourOfMix(POWERS[ash], heat)) {
+            if (told >= 0 && told != restByTen(colourOfAsh(ash, heat))) {
                 return false;
             }
         }

@@ -888,7 +888,12 @@ public final class PromisesTest {
         due.is(x.burnt(0), 31);
         row(x, 0, 32, -1, -1, -1, -1, -1, -1, -1, -1, -1, 4);
         due.is(x.burnt(0), 2 | 8);
+        row(x, 0, 32, -1, -1, -1, -1, -1, -1, -1, -1, -1, 3);
+        due.is(x.burnt(0), 1 | 4 | 16);
+        due.is(x.colour(10000, 9), KIND);
         row(x, 0, 32, -1, -1, -1, -1, -1, -1, -1, 9, 1);
+        due.is(x.burnt(0), 16);
+        row(x, 0, 32, -1, -1, -1, -1, -1, -1, -1, 9, 2);
         due.is(x.burnt(0), 0);
         row(x, 0, 32, -1, -1, -1, -1, -1, -1, -1, 9);
         due.is(x.burnt(0), 16);
@@ -899,8 +904,13 @@ public final class PromisesTest {
         due.is(x.burnt(4), BEYOND);
         due.is(x.burnt(-1), BEYOND);
         x.become(0, 60);
+        due.is(x.colour(1, 1), KIND);
         row(x, 1, 8, -1, 9);
         due.is(x.burnt(1), 0);
+        row(x, 1, 8, -1, 8);
+        due.is(x.burnt(1), 1);
+        row(x, 1, 8, 9, 8, 7, 6, 5, 9, 9, 9, 9, 9);
+        due.is(x.burnt(1), 1);
         x.become(0, 65);
         row(x, 1, 8, 4, 3);
         due.is(x.burnt(1), 1);

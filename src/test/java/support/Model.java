@@ -622,9 +622,9 @@ public final class Model {
                 for (int i = 0; i < now.ashes.size(); i++) {
                     boolean can = true;
                     for (int h = 0; h < sheets[a[0]].length; h++) {
-                        Integer given = colourOf((int) Math.pow(10, i), h);
+                        int given = Math.floorMod(colourOf(now.ashes.get(i), h), 10);
                         long told = sheets[a[0]][h];
-                        can = can && (told < 0 || given != null && given == told);
+                        can = can && (told < 0 || given == told);
                     }
                     set += can ? 1 << i : 0;
                 }
