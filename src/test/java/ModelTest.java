@@ -1,3 +1,6 @@
+import java.util.ArrayDeque;
+import java.util.Arrays;
+
 /** Long drawn runs of calls: the class answers what the plainer program of support/Model.java answers. */
 public final class ModelTest {
     private static final int RUNS = 600;
@@ -13,9 +16,20 @@ public final class ModelTest {
             Draws draws = new Draws(run * 7919L + 1);
             AshLoans x = new AshLoans();
             Model model = new Model();
+            ArrayDeque<long[]> planned = new ArrayDeque<>();
             for (int i = 0; i < CALLS; i++) {
-                int call = draws.oneIn(4) ? preferred(draws) : draws.upTo(Calls.NAMES.length - 1);
-                long[] a = arguments(draws, model, call);
+                if (planned.isEmpty() && draws.oneIn(60)) {
+                    plan(draws, model, planned);
+                }
+                int call;
+                long[] a;
+                if (planned.isEmpty()) {
+                    call = draws.oneIn(4) ? preferred(draws) : draws.upTo(Calls.NAMES.length - 1);
+                    a = arguments(draws, model, call);
+                } else {
+                    a = Arrays.copyOf(planned.peek(), 5);
+                    call = (int) planned.poll()[5];
+                }
                 int want = model.call(Calls.NAMES[call], a);
                 int got = Calls.call(x, call, a[0], (int) a[0], (int) a[1], (int) a[2], (int) a[3], (int) a[4]);
                 answers++;
@@ -27,12 +41,12 @@ public final class ModelTest {
                 if (got != want) {
                     wrong++;
                     System.out.println("run " + run + ", call " + i + ": " + Calls.NAMES[call]
-                        + java.util.Arrays.toString(a) + " answered " + got + ", due is " + want);
+                        + Arrays.toString(a) + " answered " + got + ", due is " + want);
                     break;
                 }
             }
         }
-        for (int call = 0; call < good.length; call++) {
+        for (int call = 0; call < good.length && wrong == 0; call++) {
             if (good[call] < 200) {
                 wrong++;
                 System.out.println(Calls.NAMES[call] + " was answered without an ERROR just " + good[call] + " times");
@@ -48,13 +62,58 @@ public final class ModelTest {
     private static int preferred(Draws draws) {
         String[] names = {"ash", "potter", "store", "store", "lend", "lend", "lend", "days", "put", "text", "tell",
             "breaks", "lender"};
-        String name = names[draws.upTo(names.length - 1)];
+        return number(names[draws.upTo(names.length - 1)]);
+    }
+
+    private static int number(String name) {
         for (int i = 0; i < Calls.NAMES.length; i++) {
             if (Calls.NAMES[i].equals(name)) {
                 return i;
             }
         }
-        return 0;
+        throw new IllegalArgumentException(name);
+    }
+
+    /** Calls that free draws hardly ever make in a row: a SHEET is filled with what is so, or nearly, and asked. */
+    private static void plan(Draws draws, Model model, ArrayDeque<long[]> planned) {
+        if (draws.oneIn(2)) {
+            planBurnt(draws, model, planned);
+        } else {
+            planJudge(draws, model, planned);
+        }
+    }
+
+    private static void planBurnt(Draws draws, Model model, ArrayDeque<long[]> planned) {
+        if (model.now.ashes.isEmpty()) {
+            return;
+        }
+        int ash = draws.upTo(model.now.ashes.size() - 1);
+        int sheet = draws.upTo(3);
+        int size = draws.oneIn(3) ? 10 : draws.upTo(11);
+        planned.add(planned("sheet", sheet, 8 << draws.upTo(2), size));
+        for (int heat = 0; heat < size && heat < 10; heat++) {
+            int told = draws.oneIn(3) ? -1 : model.given(ash, heat);
+            planned.add(planned("put", sheet, heat, draws.oneIn(40) ? draws.upTo(11) : told));
+        }
+        planned.add(planned("burnt", sheet));
+    }
+
+    private static void planJudge(Draws draws, Model model, ArrayDeque<long[]> planned) {
+        int sheet = draws.upTo(3);
+        int size = Math.max(0, model.now.loans.size() + (draws.oneIn(4) ? draws.between(-1, 1) : 0));
+        planned.add(planned("sheet", sheet, 8 << draws.upTo(2), size));
+        for (int loan = 0; loan < size && loan < model.now.loans.size(); loan++) {
+            int bushels = model.now.loans.get(loan)[3];
+            planned.add(planned("put", sheet, loan, draws.oneIn(20) ? draws.upTo(99) : bushels));
+        }
+        planned.add(planned("judge", sheet));
+    }
+
+    /** The arguments of a call, and behind them its number. */
+    private static long[] planned(String name, long... some) {
+        long[] a = Arrays.copyOf(some, 6);
+        a[5] = number(name);
+        return a;
     }
 
     private static long[] arguments(Draws draws, Model model, int call) {

@@ -420,6 +420,11 @@ public final class Model {
         return Math.floorMod(sum, 10);
     }
 
+    /** The COLOUR that one BUSHEL of an ASH gives, FORBIDDEN or not. */
+    int given(int ash, int heat) {
+        return Math.floorMod(colourOf(now.ashes.get(ash), heat), 10);
+    }
+
     private int heatsOf(int mix, int colour) {
         int set = 0;
         for (int h = 0; h < 10; h++) {
@@ -622,7 +627,7 @@ public final class Model {
                 for (int i = 0; i < now.ashes.size(); i++) {
                     boolean can = true;
                     for (int h = 0; h < sheets[a[0]].length; h++) {
-                        int given = Math.floorMod(colourOf(now.ashes.get(i), h), 10);
+                        int given = given(i, h);
                         long told = sheets[a[0]][h];
                         can = can && (told < 0 || given == told);
                     }
