@@ -1,5 +1,3 @@
-import java.nio.charset.StandardCharsets;
-
 /** For each promise: ordinary calls, the edges that the document names, and wrong calls. */
 public final class PromisesTest {
     private static final int BEYOND = Due.BEYOND;
@@ -24,46 +22,6 @@ public final class PromisesTest {
         images();
         telling();
         due.end();
-    }
-
-    // ---- helpers
-
-    /** An object with so many POTTERS, and an ASH of each km. */
-    private static AshLoans with(int potters, int... kms) {
-        AshLoans x = new AshLoans();
-        for (int i = 0; i < potters; i++) {
-            x.potter();
-        }
-        for (int km : kms) {
-            x.ash(km);
-        }
-        return x;
-    }
-
-    private static void feed(AshLoans x, String text) {
-        byte[] bytes = text.getBytes(StandardCharsets.ISO_8859_1);
-        for (byte one : bytes) {
-            x.feed(one & 255, 1);
-        }
-    }
-
-    private static int text(AshLoans x, int use, String text) {
-        feed(x, text);
-        return x.text(use);
-    }
-
-    /** What a TEXT of BACK gives with 7, 3, 2 (held within 0 to 99), or the answer that is a FAULT. */
-    private static int back(String text) {
-        AshLoans x = new AshLoans();
-        int read = text(x, 1, text);
-        return read == 1 ? x.law(1, 7, 3, 2) : read;
-    }
-
-    private static void row(AshLoans x, int sheet, int bits, int... numbers) {
-        x.sheet(sheet, bits, numbers.length);
-        for (int i = 0; i < numbers.length; i++) {
-            x.put(sheet, i, numbers[i]);
-        }
     }
 
     // ---- promises 1 to 6
@@ -179,7 +137,7 @@ public final class PromisesTest {
         due.is(x.count(1), 4);
 
         due.at("promise 8");
-        x = with(3, 5, 6);
+        x = Scenes.with(3, 5, 6);
         due.is(x.ofPotter(0, 0), 0);
         due.is(x.ofPotter(0, 1), 0);
         due.is(x.ofPotter(0, 2), 0);
@@ -208,7 +166,7 @@ public final class PromisesTest {
         due.is(x.ofPotter(-1, 0), BEYOND);
 
         due.at("promise 9");
-        x = with(2, 5, 6);
+        x = Scenes.with(2, 5, 6);
         due.is(x.store(1, 1, 999), 0);
         due.is(x.store(1, 1, 7), 999);
         due.is(x.store(1, 1, 0), 7);
@@ -258,9 +216,9 @@ public final class PromisesTest {
 
         due.at("promise 12");
         x = new AshLoans();
-        due.is(text(x, 1, "n*m+d"), 1);
+        due.is(Scenes.text(x, 1, "n*m+d"), 1);
         due.is(x.law(1, 7, 3, 2), 23);
-        feed(x, "mk");
+        Scenes.feed(x, "mk");
         due.is(x.text(2), BEYOND);
         due.is(x.text(-1), BEYOND);
         due.is(x.count(6), 2);
@@ -269,12 +227,12 @@ public final class PromisesTest {
         due.is(x.law(1, 7, 3, 2), 23);
         due.is(x.told(1), 2);
         due.is(x.text(1), -10);
-        due.is(text(x, 0, "n"), -10);
-        due.is(text(x, 0, "d"), -10);
-        due.is(text(x, 1, "k"), -10);
-        due.is(text(x, 1, "h"), -10);
-        due.is(text(x, 0, "m+k*h"), 1);
-        due.is(text(x, 1, "d"), 1);
+        due.is(Scenes.text(x, 0, "n"), -10);
+        due.is(Scenes.text(x, 0, "d"), -10);
+        due.is(Scenes.text(x, 1, "k"), -10);
+        due.is(Scenes.text(x, 1, "h"), -10);
+        due.is(Scenes.text(x, 0, "m+k*h"), 1);
+        due.is(Scenes.text(x, 1, "d"), 1);
         due.is(x.law(0, 7, 3, 2), 13);
         due.is(x.law(1, 7, 3, 2), 2);
         grammar();
@@ -290,20 +248,20 @@ public final class PromisesTest {
         due.is(x.law(1, 99, 8, 8), 75);
         due.is(x.law(1, 3, 8, 8), 3);
         due.is(x.law(1, -8, 8, 8), 0);
-        text(x, 0, "k");
-        text(x, 1, "m");
+        Scenes.text(x, 0, "k");
+        Scenes.text(x, 1, "m");
         due.is(x.law(0, 3, 50, 4), 50);
         due.is(x.law(1, 3, 51, 4), 51);
         due.is(x.law(0, 3, 100, 4), 99);
         due.is(x.law(0, 3, MIN, 4), 0);
-        text(x, 0, "m*m/h");
+        Scenes.text(x, 0, "m*m/h");
         due.is(x.law(0, 65536, 0, 1), 0);
         due.is(x.law(0, 46341, 0, -100000000), 21);
-        text(x, 0, "m/k+99");
+        Scenes.text(x, 0, "m/k+99");
         due.is(x.law(0, MIN, -1, 0), 0);
-        text(x, 0, "m%k+1");
+        Scenes.text(x, 0, "m%k+1");
         due.is(x.law(0, MIN, -1, 0), 1);
-        text(x, 0, "m+k");
+        Scenes.text(x, 0, "m+k");
         due.is(x.law(0, MAX, 1, 0), 0);
         due.is(x.law(0, MIN, MIN, 0), 0);
         due.is(x.law(0, MAX, MIN, 0), 0);
@@ -312,119 +270,119 @@ public final class PromisesTest {
 
     /** With n 7, m 3, d 2. */
     private static void grammar() {
-        due.is(back("n"), 7);
-        due.is(back("0"), 0);
-        due.is(back("0042"), 42);
-        due.is(back("9999"), 99);
-        due.is(back("1+2*3"), 7);
-        due.is(back("(1+2)*3"), 9);
-        due.is(back("20-5-4"), 11);
-        due.is(back("20-(5-4)"), 19);
-        due.is(back("90/4/3"), 7);
-        due.is(back("90%50%7"), 5);
-        due.is(back("2*9/4%3"), 1);
-        due.is(back("9/4*2"), 4);
-        due.is(back("5/0"), 0);
-        due.is(back("5%0"), 0);
-        due.is(back("9+7/0"), 9);
-        due.is(back("(0-7)/2+9"), 6);
-        due.is(back("(0-7)%2+9"), 8);
-        due.is(back("7%(0-4)"), 3);
-        due.is(back("n<m"), 0);
-        due.is(back("m<n"), 1);
-        due.is(back("m<m"), 0);
-        due.is(back("n>m"), 1);
-        due.is(back("m>n"), 0);
-        due.is(back("m>m"), 0);
-        due.is(back("n=7"), 1);
-        due.is(back("n=8"), 0);
-        due.is(back("1+1=2"), 1);
-        due.is(back("2=1+1"), 1);
-        due.is(back("3|4"), 1);
-        due.is(back("0|4"), 1);
-        due.is(back("0|0"), 0);
-        due.is(back("3&4"), 1);
-        due.is(back("0&4"), 0);
-        due.is(back("4&0"), 0);
-        due.is(back("1|1&0"), 1);
-        due.is(back("(1|1)&0"), 0);
-        due.is(back("0&0|1"), 1);
-        due.is(back("0&(0|1)"), 0);
-        due.is(back("1|0|0|0"), 1);
-        due.is(back("1&2&3&4"), 1);
-        due.is(back("1<2&3>2"), 1);
-        due.is(back("(1<2)+(3>2)+(4=4)"), 3);
-        due.is(back("!0"), 1);
-        due.is(back("!5"), 0);
-        due.is(back("!!5"), 1);
-        due.is(back("!5+3"), 3);
-        due.is(back("!0*9"), 9);
-        due.is(back("!(1-1)"), 1);
-        due.is(back("5*!0+1"), 6);
-        due.is(back("0-5"), 0);
-        due.is(back("(((((n)))))"), 7);
-        due.is(back("!!!!!n"), 0);
-        due.is(back("!(!(!n))"), 0);
-        due.is(back("!n+!n+!n+!n+!n+!n+8"), 8);
-        due.is(back("(n)+(n)+(n)+(n)+(n)+(n)"), 42);
-        due.is(back("((((n))))+((((m))))"), 10);
+        due.is(Scenes.back("n"), 7);
+        due.is(Scenes.back("0"), 0);
+        due.is(Scenes.back("0042"), 42);
+        due.is(Scenes.back("9999"), 99);
+        due.is(Scenes.back("1+2*3"), 7);
+        due.is(Scenes.back("(1+2)*3"), 9);
+        due.is(Scenes.back("20-5-4"), 11);
+        due.is(Scenes.back("20-(5-4)"), 19);
+        due.is(Scenes.back("90/4/3"), 7);
+        due.is(Scenes.back("90%50%7"), 5);
+        due.is(Scenes.back("2*9/4%3"), 1);
+        due.is(Scenes.back("9/4*2"), 4);
+        due.is(Scenes.back("5/0"), 0);
+        due.is(Scenes.back("5%0"), 0);
+        due.is(Scenes.back("9+7/0"), 9);
+        due.is(Scenes.back("(0-7)/2+9"), 6);
+        due.is(Scenes.back("(0-7)%2+9"), 8);
+        due.is(Scenes.back("7%(0-4)"), 3);
+        due.is(Scenes.back("n<m"), 0);
+        due.is(Scenes.back("m<n"), 1);
+        due.is(Scenes.back("m<m"), 0);
+        due.is(Scenes.back("n>m"), 1);
+        due.is(Scenes.back("m>n"), 0);
+        due.is(Scenes.back("m>m"), 0);
+        due.is(Scenes.back("n=7"), 1);
+        due.is(Scenes.back("n=8"), 0);
+        due.is(Scenes.back("1+1=2"), 1);
+        due.is(Scenes.back("2=1+1"), 1);
+        due.is(Scenes.back("3|4"), 1);
+        due.is(Scenes.back("0|4"), 1);
+        due.is(Scenes.back("0|0"), 0);
+        due.is(Scenes.back("3&4"), 1);
+        due.is(Scenes.back("0&4"), 0);
+        due.is(Scenes.back("4&0"), 0);
+        due.is(Scenes.back("1|1&0"), 1);
+        due.is(Scenes.back("(1|1)&0"), 0);
+        due.is(Scenes.back("0&0|1"), 1);
+        due.is(Scenes.back("0&(0|1)"), 0);
+        due.is(Scenes.back("1|0|0|0"), 1);
+        due.is(Scenes.back("1&2&3&4"), 1);
+        due.is(Scenes.back("1<2&3>2"), 1);
+        due.is(Scenes.back("(1<2)+(3>2)+(4=4)"), 3);
+        due.is(Scenes.back("!0"), 1);
+        due.is(Scenes.back("!5"), 0);
+        due.is(Scenes.back("!!5"), 1);
+        due.is(Scenes.back("!5+3"), 3);
+        due.is(Scenes.back("!0*9"), 9);
+        due.is(Scenes.back("!(1-1)"), 1);
+        due.is(Scenes.back("5*!0+1"), 6);
+        due.is(Scenes.back("0-5"), 0);
+        due.is(Scenes.back("(((((n)))))"), 7);
+        due.is(Scenes.back("!!!!!n"), 0);
+        due.is(Scenes.back("!(!(!n))"), 0);
+        due.is(Scenes.back("!n+!n+!n+!n+!n+!n+8"), 8);
+        due.is(Scenes.back("(n)+(n)+(n)+(n)+(n)+(n)"), 42);
+        due.is(Scenes.back("((((n))))+((((m))))"), 10);
     }
 
     private static void faults() {
-        due.is(back(""), -10);
-        due.is(back("x"), -10);
-        due.is(back(" n"), -10);
-        due.is(back("n "), -11);
-        due.is(back("n+"), -12);
-        due.is(back("n+*"), -12);
-        due.is(back("nn"), -11);
-        due.is(back("1n"), -11);
-        due.is(back("n1"), -11);
-        due.is(back("12345"), -14);
-        due.is(back("00000"), -14);
-        due.is(back("m+12345"), -16);
-        due.is(back("1<2<3"), -13);
-        due.is(back("1=2>3"), -13);
-        due.is(back("1<2+3=4"), -15);
-        due.is(back("(1<2)<3"), 1);
-        due.is(back("(1<2<3)"), -14);
-        due.is(back("1<2|1<2|1<2"), 1);
-        due.is(back("-1"), -10);
-        due.is(back("1+-1"), -12);
-        due.is(back("()"), -11);
-        due.is(back(")"), -10);
-        due.is(back("n)"), -11);
-        due.is(back("(n"), -12);
-        due.is(back("(n+"), -13);
-        due.is(back("(n))"), -13);
-        due.is(back("("), -11);
-        due.is(back("!"), -11);
-        due.is(back("n!"), -11);
-        due.is(back("n(m)"), -11);
-        due.is(back("!+n"), -11);
-        due.is(back("!!!!!!n"), -15);
-        due.is(back("((((((n))))))"), -15);
-        due.is(back("!!!!!(n)"), -15);
-        due.is(back("(((((!n)))))"), -15);
-        due.is(back("!(!(!(n)))"), -15);
-        due.is(back("!(n)+!(!(!n+!n))"), 0);
-        due.is(back("((((("), -15);
-        due.is(back("(((((n))))"), -20);
-        due.is(back("1&&2"), -12);
-        due.is(back("1||2"), -12);
-        due.is(back("1==2"), -12);
-        due.is(back("N"), -10);
-        due.is(back("\u00ee"), -10);
-        due.is(back("n\u0000"), -11);
-        due.is(back("1+1+1+1+1+1+1+1+1+1+1+1+1+1+1+1+1+1+1+1+1+1+1+1+1+"), -60);
-        due.is(back("1+1+1+1+1+1+1+1+1+1+1+1+1+1+1+1+1+1+1+1+1+1+1+1+1)"), -59);
+        due.is(Scenes.back(""), -10);
+        due.is(Scenes.back("x"), -10);
+        due.is(Scenes.back(" n"), -10);
+        due.is(Scenes.back("n "), -11);
+        due.is(Scenes.back("n+"), -12);
+        due.is(Scenes.back("n+*"), -12);
+        due.is(Scenes.back("nn"), -11);
+        due.is(Scenes.back("1n"), -11);
+        due.is(Scenes.back("n1"), -11);
+        due.is(Scenes.back("12345"), -14);
+        due.is(Scenes.back("00000"), -14);
+        due.is(Scenes.back("m+12345"), -16);
+        due.is(Scenes.back("1<2<3"), -13);
+        due.is(Scenes.back("1=2>3"), -13);
+        due.is(Scenes.back("1<2+3=4"), -15);
+        due.is(Scenes.back("(1<2)<3"), 1);
+        due.is(Scenes.back("(1<2<3)"), -14);
+        due.is(Scenes.back("1<2|1<2|1<2"), 1);
+        due.is(Scenes.back("-1"), -10);
+        due.is(Scenes.back("1+-1"), -12);
+        due.is(Scenes.back("()"), -11);
+        due.is(Scenes.back(")"), -10);
+        due.is(Scenes.back("n)"), -11);
+        due.is(Scenes.back("(n"), -12);
+        due.is(Scenes.back("(n+"), -13);
+        due.is(Scenes.back("(n))"), -13);
+        due.is(Scenes.back("("), -11);
+        due.is(Scenes.back("!"), -11);
+        due.is(Scenes.back("n!"), -11);
+        due.is(Scenes.back("n(m)"), -11);
+        due.is(Scenes.back("!+n"), -11);
+        due.is(Scenes.back("!!!!!!n"), -15);
+        due.is(Scenes.back("((((((n))))))"), -15);
+        due.is(Scenes.back("!!!!!(n)"), -15);
+        due.is(Scenes.back("(((((!n)))))"), -15);
+        due.is(Scenes.back("!(!(!(n)))"), -15);
+        due.is(Scenes.back("!(n)+!(!(!n+!n))"), 0);
+        due.is(Scenes.back("((((("), -15);
+        due.is(Scenes.back("(((((n))))"), -20);
+        due.is(Scenes.back("1&&2"), -12);
+        due.is(Scenes.back("1||2"), -12);
+        due.is(Scenes.back("1==2"), -12);
+        due.is(Scenes.back("N"), -10);
+        due.is(Scenes.back("\u00ee"), -10);
+        due.is(Scenes.back("n\u0000"), -11);
+        due.is(Scenes.back("1+1+1+1+1+1+1+1+1+1+1+1+1+1+1+1+1+1+1+1+1+1+1+1+1+"), -60);
+        due.is(Scenes.back("1+1+1+1+1+1+1+1+1+1+1+1+1+1+1+1+1+1+1+1+1+1+1+1+1)"), -59);
     }
 
     // ---- promises 14 to 17
 
     private static void loans() {
         due.at("promise 14");
-        AshLoans x = with(3, 5, 6);
+        AshLoans x = Scenes.with(3, 5, 6);
         x.store(0, 0, 100);
         x.store(1, 0, 950);
         due.is(x.lend(0, 1, 0, 0, 5), BEYOND);
@@ -477,7 +435,7 @@ public final class PromisesTest {
         due.is(x.ofLoan(9, 4), 61);
 
         due.at("promise 16");
-        x = with(2, 5, 6);
+        x = Scenes.with(2, 5, 6);
         x.store(0, 0, 100);
         x.store(0, 1, 999);
         x.lend(0, 1, 0, 10, 5);
@@ -496,11 +454,11 @@ public final class PromisesTest {
         due.is(x.ofLoan(1, 3), 20);
         due.is(x.back(2), BEYOND);
         x.days(4);
-        text(x, 1, "n+m*d");
+        Scenes.text(x, 1, "n+m*d");
         due.is(x.back(0), 64);
         due.is(x.stored(1, 1), 0);
         due.is(x.stored(0, 1), 999);
-        text(x, 1, "n*n");
+        Scenes.text(x, 1, "n*n");
         due.is(x.back(0), STATE);
         x.store(1, 0, 20);
         due.is(x.back(0), 99);
@@ -508,7 +466,7 @@ public final class PromisesTest {
         due.is(x.count(2), 0);
 
         due.at("promise 17");
-        x = with(2, 4, 45, 60, 13);
+        x = Scenes.with(2, 4, 45, 60, 13);
         x.store(0, 0, 9);
         x.store(0, 1, 3);
         x.store(0, 2, 3);
@@ -551,7 +509,7 @@ public final class PromisesTest {
 
     private static void passing() {
         due.at("promise 18");
-        AshLoans x = with(3, 5, 6, 7);
+        AshLoans x = Scenes.with(3, 5, 6, 7);
         due.is(x.days(0), BEYOND);
         due.is(x.days(61), BEYOND);
         due.is(x.days(-5), BEYOND);
@@ -584,7 +542,7 @@ public final class PromisesTest {
         due.is(x.loose(40), 0);
         due.is(x.count(9), 1);
         due.is(x.count(3), 40);
-        x = with(1, 5, 6, 7);
+        x = Scenes.with(1, 5, 6, 7);
         int z = 1;
         int[] grown = new int[3];
         int[] hedges = new int[3];
@@ -603,14 +561,14 @@ public final class PromisesTest {
             due.is(x.ofAsh(a, 2), hedges[a]);
             due.is(x.stored(0, a), grown[a]);
         }
-        x = with(2, 5);
+        x = Scenes.with(2, 5);
         x.store(0, 0, 10);
         x.lend(0, 1, 0, 3, 2);
         x.lend(0, 1, 0, 3, 9);
         due.is(x.loose(2), 1);
 
         due.at("promise 29");
-        x = with(1, 5);
+        x = Scenes.with(1, 5);
         due.is(x.seed(-77), 1);
         due.is(x.seed(0), -77);
         due.is(x.seed(-1000000001), 0);
@@ -622,7 +580,7 @@ public final class PromisesTest {
     }
 
     private static void hedgesGrow() {
-        AshLoans x = with(2, 5, 6, 7);
+        AshLoans x = Scenes.with(2, 5, 6, 7);
         x.hedge(0, 0, 9);
         x.hedge(1, 0, 4);
         x.hedge(1, 1, 1);
@@ -645,7 +603,7 @@ public final class PromisesTest {
 
     /** HEDGES come ahead of LOANS, LOANS by numbers, and what one gives back helps the next. */
     private static void dayByDay() {
-        AshLoans x = with(3, 5);
+        AshLoans x = Scenes.with(3, 5);
         x.store(0, 0, 10);
         x.lend(0, 1, 0, 10, 1);
         x.store(1, 0, 9);
@@ -656,7 +614,7 @@ public final class PromisesTest {
         due.is(x.stored(0, 0), 8);
         due.is(x.stored(1, 0), 0);
 
-        x = with(3, 5);
+        x = Scenes.with(3, 5);
         x.store(0, 0, 20);
         x.store(1, 0, 20);
         x.lend(0, 1, 0, 20, 1);
@@ -666,7 +624,7 @@ public final class PromisesTest {
         due.is(x.ofPotter(1, 1), 1);
         due.is(x.stored(1, 0), 15);
 
-        x = with(3, 5);
+        x = Scenes.with(3, 5);
         x.store(0, 0, 20);
         x.store(1, 0, 20);
         x.lend(1, 2, 0, 20, 1);
@@ -677,8 +635,8 @@ public final class PromisesTest {
         due.is(x.stored(0, 0), 5 + 12);
         due.is(x.stored(1, 0), 0);
 
-        x = with(2, 5);
-        text(x, 1, "d*10+m");
+        x = Scenes.with(2, 5);
+        Scenes.text(x, 1, "d*10+m");
         x.store(0, 0, 20);
         x.lend(0, 1, 0, 20, 3);
         x.days(3);
@@ -687,7 +645,7 @@ public final class PromisesTest {
 
     private static void lastDay() {
         due.at("promises 18, 19, 21, 22: the last DAY");
-        AshLoans x = with(2, 5);
+        AshLoans x = Scenes.with(2, 5);
         for (int i = 0; i < 166; i++) {
             x.days(60);
         }
@@ -722,8 +680,8 @@ public final class PromisesTest {
 
     private static void wouldBe() {
         due.at("promise 20");
-        AshLoans x = with(1, 7, 17, 27, 37, 47);
-        text(x, 0, "m+h+k*10");
+        AshLoans x = Scenes.with(1, 7, 17, 27, 37, 47);
+        Scenes.text(x, 0, "m+h+k*10");
         int[] at3 = {10, 21, 60, 40, 54};
         int[] at6 = {13, 24, 66, 7, 60};
         int mix = 1;
@@ -756,7 +714,7 @@ public final class PromisesTest {
         due.is(x.colour(1, 10), BEYOND);
         due.is(x.colour(10, 10), BEYOND);
         due.is(x.colour(1, -1), BEYOND);
-        x = with(0, 32, 32);
+        x = Scenes.with(0, 32, 32);
         due.is(x.colour(1, 4), 6);
         due.is(x.colour(1, 5), 2);
         due.is(x.colour(99, 4), 8);
@@ -767,7 +725,7 @@ public final class PromisesTest {
         recipes();
 
         due.at("promise 24");
-        x = with(0, 4, 42, 60, 63);
+        x = Scenes.with(0, 4, 42, 60, 63);
         due.is(x.heats(1, 4), 1);
         due.is(x.heats(1, 3), 1 << 9);
         due.is(x.heats(2, 8), 1 | 1 << 5);
@@ -803,7 +761,7 @@ public final class PromisesTest {
         due.is(x.odds(0, -1, 0), BEYOND);
         due.is(x.odds(10000, 0, 0), BEYOND);
         due.is(x.odds(-1, 0, 0), BEYOND);
-        text(x, 0, "(h<7)*5");
+        Scenes.text(x, 0, "(h<7)*5");
         due.is(x.odds(1, 5, 0), 7);
         due.is(x.odds(1, 5, 1), 10);
 
@@ -812,8 +770,8 @@ public final class PromisesTest {
 
     private static void recipes() {
         due.at("promise 23");
-        AshLoans x = with(2, 1, 2, 5);
-        text(x, 0, "m");
+        AshLoans x = Scenes.with(2, 1, 2, 5);
+        Scenes.text(x, 0, "m");
         x.store(0, 0, 9);
         x.store(0, 1, 2);
         due.is(x.recipe(0, 1, 0), 1);
@@ -851,8 +809,8 @@ public final class PromisesTest {
         x.become(0, 61);
         due.is(x.recipe(0, 8, 0), 1);
         due.is(x.recipe(0, 4, 0), 3);
-        AshLoans y = with(1, 1, 1, 1, 1, 1);
-        text(y, 0, "m");
+        AshLoans y = Scenes.with(1, 1, 1, 1, 1, 1);
+        Scenes.text(y, 0, "m");
         for (int ash = 0; ash < 5; ash++) {
             y.store(0, ash, 999);
         }
@@ -864,38 +822,38 @@ public final class PromisesTest {
 
     private static void burning() {
         due.at("promise 25");
-        AshLoans x = with(0, 4, 14, 4, 34, 44);
+        AshLoans x = Scenes.with(0, 4, 14, 4, 34, 44);
         due.is(x.burnt(0), NONE);
         x.sheet(0, 8, 0);
         due.is(x.burnt(0), 31);
-        row(x, 0, 8, 4);
+        Scenes.row(x, 0, 8, 4);
         due.is(x.burnt(0), 1 | 4 | 8);
-        row(x, 0, 8, -1, -1, -1, -1, -1, 9);
+        Scenes.row(x, 0, 8, -1, -1, -1, -1, -1, 9);
         due.is(x.burnt(0), 1 | 4);
-        row(x, 0, 8, -1, -1, -1, -1, -1, 4);
+        Scenes.row(x, 0, 8, -1, -1, -1, -1, -1, 4);
         due.is(x.burnt(0), 8);
-        row(x, 0, 8, 4, 255);
+        Scenes.row(x, 0, 8, 4, 255);
         due.is(x.burnt(0), 1 | 4 | 8);
-        row(x, 0, 8, 0);
+        Scenes.row(x, 0, 8, 0);
         due.is(x.burnt(0), 0);
-        row(x, 0, 16, 5, -30000);
+        Scenes.row(x, 0, 16, 5, -30000);
         due.is(x.burnt(0), 2 | 16);
-        row(x, 0, 32, 5, 7);
+        Scenes.row(x, 0, 32, 5, 7);
         due.is(x.burnt(0), 16);
-        row(x, 0, 32, 14);
+        Scenes.row(x, 0, 32, 14);
         due.is(x.burnt(0), 0);
-        row(x, 0, 32, -1, -1, -1, -1, -1, -1, -1, -1, -1, -1);
+        Scenes.row(x, 0, 32, -1, -1, -1, -1, -1, -1, -1, -1, -1, -1);
         due.is(x.burnt(0), 31);
-        row(x, 0, 32, -1, -1, -1, -1, -1, -1, -1, -1, -1, 4);
+        Scenes.row(x, 0, 32, -1, -1, -1, -1, -1, -1, -1, -1, -1, 4);
         due.is(x.burnt(0), 2 | 8);
-        row(x, 0, 32, -1, -1, -1, -1, -1, -1, -1, -1, -1, 3);
+        Scenes.row(x, 0, 32, -1, -1, -1, -1, -1, -1, -1, -1, -1, 3);
         due.is(x.burnt(0), 1 | 4 | 16);
         due.is(x.colour(10000, 9), KIND);
-        row(x, 0, 32, -1, -1, -1, -1, -1, -1, -1, 9, 1);
+        Scenes.row(x, 0, 32, -1, -1, -1, -1, -1, -1, -1, 9, 1);
         due.is(x.burnt(0), 16);
-        row(x, 0, 32, -1, -1, -1, -1, -1, -1, -1, 9, 2);
+        Scenes.row(x, 0, 32, -1, -1, -1, -1, -1, -1, -1, 9, 2);
         due.is(x.burnt(0), 0);
-        row(x, 0, 32, -1, -1, -1, -1, -1, -1, -1, 9);
+        Scenes.row(x, 0, 32, -1, -1, -1, -1, -1, -1, -1, 9);
         due.is(x.burnt(0), 16);
         x.sheet(0, 32, 11);
         due.is(x.burnt(0), NONE);
@@ -905,17 +863,17 @@ public final class PromisesTest {
         due.is(x.burnt(-1), BEYOND);
         x.become(0, 60);
         due.is(x.colour(1, 1), KIND);
-        row(x, 1, 8, -1, 9);
+        Scenes.row(x, 1, 8, -1, 9);
         due.is(x.burnt(1), 0);
-        row(x, 1, 8, -1, 8);
+        Scenes.row(x, 1, 8, -1, 8);
         due.is(x.burnt(1), 1);
-        row(x, 1, 8, 9, 8, 7, 6, 5, 9, 9, 9, 9, 9);
+        Scenes.row(x, 1, 8, 9, 8, 7, 6, 5, 9, 9, 9, 9, 9);
         due.is(x.burnt(1), 1);
         x.become(0, 65);
-        row(x, 1, 8, 4, 3);
+        Scenes.row(x, 1, 8, 4, 3);
         due.is(x.burnt(1), 1);
-        text(x, 0, "60");
-        row(x, 1, 8, 9);
+        Scenes.text(x, 0, "60");
+        Scenes.row(x, 1, 8, 9);
         due.is(x.burnt(1), 1);
     }
 
@@ -923,7 +881,7 @@ public final class PromisesTest {
 
     private static void thinking() {
         due.at("promise 21");
-        AshLoans x = with(2, 5, 6);
+        AshLoans x = Scenes.with(2, 5, 6);
         x.store(0, 0, 50);
         x.hedge(1, 0, 3);
         x.hedge(1, 1, 1);
@@ -934,7 +892,7 @@ public final class PromisesTest {
         due.is(x.then(4, 0, 0), 25);
         due.is(x.then(6, 0, 0), 40);
         due.is(x.then(60, 1, 1), 180);
-        AshLoans y = with(3, 5, 6);
+        AshLoans y = Scenes.with(3, 5, 6);
         y.store(2, 1, 50);
         y.lend(2, 1, 1, 20, 4);
         due.is(y.then(4, 2, 1), 45);
@@ -977,7 +935,7 @@ public final class PromisesTest {
         due.is(x.breaks(-1), BEYOND);
 
         due.at("promise 26");
-        x = with(3, 5, 6);
+        x = Scenes.with(3, 5, 6);
         for (int potter = 0; potter < 3; potter++) {
             x.store(potter, 0, 300);
             x.store(potter, 1, 300);
@@ -1000,7 +958,7 @@ public final class PromisesTest {
         due.is(x.round(), 63);
         x.lend(2, 1, 0, 20, 5);
         due.is(x.round(), 83);
-        x = with(2, 5, 6, 7);
+        x = Scenes.with(2, 5, 6, 7);
         x.store(0, 0, 90);
         x.store(0, 1, 90);
         x.store(1, 1, 90);
@@ -1016,7 +974,7 @@ public final class PromisesTest {
 
     private static void lenders() {
         due.at("promise 27");
-        AshLoans x = with(4, 5, 6);
+        AshLoans x = Scenes.with(4, 5, 6);
         due.is(x.lender(0, 0, 1, 1), NONE);
         x.store(0, 0, 50);
         x.store(1, 0, 50);
@@ -1078,7 +1036,7 @@ public final class PromisesTest {
         voice(5, m, new int[] {burns, reedMelts, runs, reedMelts ^ runs});
         int dungRuns = -runs ^ n;
         voice(6, m, new int[] {burns, melts, dungRuns, melts - (melts ^ dungRuns)});
-        AshLoans a = with(0, 0, 13, 69);
+        AshLoans a = Scenes.with(0, 0, 13, 69);
         due.is(a.voice(0, 1, MAX), -2);
         due.is(a.voice(1, 0, MAX), (MAX + 1) * 3);
         due.is(a.voice(0, 0, -1000000001), -1000000001);
@@ -1089,7 +1047,7 @@ public final class PromisesTest {
         due.is(a.voice(0, -1, 0), BEYOND);
 
         due.at("promise 31");
-        AshLoans b = with(0, 4, 14, 24, 34, 44);
+        AshLoans b = Scenes.with(0, 4, 14, 24, 34, 44);
         due.is(b.trace(0), NONE);
         trace(b, 0, 3, 13, 11, 10, 12);
         trace(b, 1, 1, 11, 20, 10);
@@ -1114,7 +1072,7 @@ public final class PromisesTest {
 
     /** What ASH 2 of a KIND answers for each act with 5. */
     private static void voice(int kind, int m, int[] answers) {
-        AshLoans x = with(0, 0, 0, kind * 10 + m);
+        AshLoans x = Scenes.with(0, 0, 0, kind * 10 + m);
         for (int act = 0; act < 4; act++) {
             due.is(x.voice(2, act, 5), answers[act]);
         }
@@ -1156,14 +1114,14 @@ public final class PromisesTest {
         due.is(x.hedge(0, 0, 4), 0);
         due.is(x.hedges(3), 2);
         due.is(x.ofAsh(0, 2), 0);
-        row(x, 3, 8, 7, 7);
+        Scenes.row(x, 3, 8, 7, 7);
         x.sheet(3, 8, 2);
         due.is(x.hedges(3), 2);
         due.is(x.ofAsh(0, 2), 0);
         due.is(x.ofAsh(1, 2), 0);
 
         due.at("promise 33");
-        row(x, 0, 8, 0);
+        Scenes.row(x, 0, 8, 0);
         due.is(x.put(4, 0, 0), BEYOND);
         due.is(x.put(-1, 0, 0), BEYOND);
         due.is(x.put(1, -1, 0), NONE);
@@ -1172,12 +1130,12 @@ public final class PromisesTest {
         due.is(x.put(0, 0, 256 + 5), 1);
         due.is(x.hedges(0), 1);
         due.is(x.ofAsh(0, 2), 5);
-        row(x, 0, 16, 256 + 5);
+        Scenes.row(x, 0, 16, 256 + 5);
         due.is(x.hedges(0), 0);
         due.is(x.put(0, 0, 65536 + 6), 1);
         due.is(x.hedges(0), 1);
         due.is(x.ofAsh(0, 2), 6);
-        row(x, 0, 32, 65536 + 7);
+        Scenes.row(x, 0, 32, 65536 + 7);
         due.is(x.hedges(0), 0);
         due.is(x.put(0, 0, 8), 1);
         due.is(x.hedges(0), 1);
@@ -1186,7 +1144,7 @@ public final class PromisesTest {
         hedgesOfSheets();
 
         due.at("promise 36");
-        x = with(2, 5);
+        x = Scenes.with(2, 5);
         x.store(0, 0, 500);
         due.is(x.judge(0), NONE);
         due.is(x.judge(4), BEYOND);
@@ -1200,11 +1158,11 @@ public final class PromisesTest {
         due.is(x.judge(0), 0);
         x.put(0, 0, 99);
         due.is(x.judge(0), 1);
-        row(x, 0, 8, 99, 8);
+        Scenes.row(x, 0, 8, 99, 8);
         due.is(x.judge(0), 1);
-        row(x, 0, 8, 99, 7);
+        Scenes.row(x, 0, 8, 99, 7);
         due.is(x.judge(0), -1);
-        row(x, 0, 8, 99, 7, 0);
+        Scenes.row(x, 0, 8, 99, 7, 0);
         due.is(x.judge(0), 2);
         x.days(9);
         due.is(x.judge(0), 0);
@@ -1212,10 +1170,10 @@ public final class PromisesTest {
 
     private static void moves() {
         due.at("promise 34");
-        AshLoans x = with(0, 0, 0, 0, 0, 0);
-        row(x, 0, 8, 1, 2, 3, 4, 5);
-        row(x, 1, 8, 9, 9, 9, 9, 9);
-        row(x, 2, 16, 9, 9);
+        AshLoans x = Scenes.with(0, 0, 0, 0, 0, 0);
+        Scenes.row(x, 0, 8, 1, 2, 3, 4, 5);
+        Scenes.row(x, 1, 8, 9, 9, 9, 9, 9);
+        Scenes.row(x, 2, 16, 9, 9);
         due.is(x.move(4, 0, 0, 0, 0), BEYOND);
         due.is(x.move(0, 0, 4, 0, 0), BEYOND);
         due.is(x.move(-1, 0, 0, 0, 0), BEYOND);
@@ -1258,27 +1216,27 @@ public final class PromisesTest {
 
     private static void hedgesOfSheets() {
         due.at("promise 35");
-        AshLoans x = with(0, 0, 0, 0);
+        AshLoans x = Scenes.with(0, 0, 0, 0);
         due.is(x.hedges(4), BEYOND);
         due.is(x.hedges(-1), BEYOND);
         due.is(x.hedges(0), NONE);
         x.sheet(0, 8, 0);
         due.is(x.hedges(0), 0);
-        row(x, 0, 8, 3, 4);
+        Scenes.row(x, 0, 8, 3, 4);
         due.is(x.hedges(0), 2);
         due.is(x.ofAsh(1, 2), 4);
         due.is(x.ofAsh(2, 2), 0);
-        row(x, 0, 8, 0, 9, 8, 7, 6);
+        Scenes.row(x, 0, 8, 0, 9, 8, 7, 6);
         due.is(x.hedges(0), 3);
         due.is(x.ofAsh(0, 2), 0);
         due.is(x.ofAsh(1, 2), 9);
         due.is(x.ofAsh(2, 2), 8);
-        row(x, 0, 8, 5, -1, 5);
+        Scenes.row(x, 0, 8, 5, -1, 5);
         due.is(x.hedges(0), 1);
         due.is(x.ofAsh(0, 2), 5);
         due.is(x.ofAsh(1, 2), 9);
         due.is(x.ofAsh(2, 2), 8);
-        row(x, 0, 8, 6, 6, 10);
+        Scenes.row(x, 0, 8, 6, 6, 10);
         due.is(x.hedges(0), 2);
         due.is(x.ofAsh(2, 2), 8);
         due.is(x.told(1), 2);
@@ -1288,7 +1246,7 @@ public final class PromisesTest {
 
     private static void images() {
         due.at("promises 37 and 38");
-        AshLoans x = with(2, 5);
+        AshLoans x = Scenes.with(2, 5);
         due.is(x.restore(), NONE);
         x.store(0, 0, 100);
         x.hedge(0, 0, 3);
@@ -1296,14 +1254,14 @@ public final class PromisesTest {
         x.lend(0, 1, 0, 10, 5);
         x.lend(0, 1, 0, 20, 9);
         x.fire(0, 3, 1);
-        text(x, 0, "7");
-        text(x, 1, "8");
-        feed(x, "m+");
+        Scenes.text(x, 0, "7");
+        Scenes.text(x, 1, "8");
+        Scenes.feed(x, "m+");
         x.tell(2);
         x.tell(4);
         x.seed(99);
         x.days(3);
-        row(x, 0, 8, 1);
+        Scenes.row(x, 0, 8, 1);
         due.is(x.image(), 1);
 
         x.ash(61);
@@ -1316,14 +1274,14 @@ public final class PromisesTest {
         x.loose(20);
         x.store(0, 0, 5);
         x.fire(0, 1, 1);
-        text(x, 0, "1");
+        Scenes.text(x, 0, "1");
         x.text(0);
-        text(x, 1, "2");
-        feed(x, "k");
+        Scenes.text(x, 1, "2");
+        Scenes.feed(x, "k");
         x.check();
         x.tell(9);
         x.voice(0, 0, 0);
-        row(x, 0, 8, 10, 20);
+        Scenes.row(x, 0, 8, 10, 20);
         int refused = x.told(1);
         due.is(x.restore(), 3);
 
@@ -1374,7 +1332,7 @@ public final class PromisesTest {
 
     /** An ASH and a POTTER that come in place of those that an IMAGE undid have nothing of them. */
     private static void begunAnew() {
-        AshLoans x = with(1, 5);
+        AshLoans x = Scenes.with(1, 5);
         x.image();
         x.ash(66);
         x.potter();
@@ -1405,7 +1363,7 @@ public final class PromisesTest {
 
     private static void telling() {
         due.at("promise 39");
-        AshLoans x = with(2, 5);
+        AshLoans x = Scenes.with(2, 5);
         for (int i = 1; i <= 20; i++) {
             due.is(x.tell(MIN), i);
         }
@@ -1447,7 +1405,7 @@ public final class PromisesTest {
         x.days(2);
         x.fire(0, 2, 2);
         x.fire(1, 1, 2);
-        feed(x, "m*m");
+        Scenes.feed(x, "m*m");
         x.tell(8);
         x.voice(0, 1, 1);
         x.seed(-1000000002);
@@ -1491,7 +1449,7 @@ public final class PromisesTest {
     /** BROKEN is never above 99, and POTS are counted one by one. */
     private static void mostBroken() {
         due.at("promises 8, 18: most BROKEN");
-        AshLoans x = with(2, 5);
+        AshLoans x = Scenes.with(2, 5);
         int calls = 3;
         while (x.ofPotter(1, 1) < 99 && calls < 500) {
             x.store(0, 0, 10);
