@@ -622,7 +622,7 @@ public final class AshLoans {
     }
 
     private boolean isMix(int mix) {
-        return within(mix, 0, POWERS[now.county.ashCount] - 1);
+        return within(mix, 0, POWERS[held(now.county.ashCount, MOST_ASHES)] - 1);
     }
 
     private static boolean isUnder(int kind, int other) {
@@ -1020,7 +1020,7 @@ public final class AshLoans {
         void settleLoans(Law law) {
             int all = loanCount;
             int number = 0;
-            for (int seen = 0; seen < all; seen++) {
+            for (int seen = 0; seen < all && hasLoan(number); seen++) {
                 if (loans[number].due != day) {
                     number++;
                 } else if (canGiveBack(loans[number])) {
@@ -1093,8 +1093,11 @@ public final class AshLoans {
             for (int i = 0; i < size; i++) {
                 int item = code[i];
                 if (item >= -NAMES_EACH) {
-                    stack[top] = item >= 0 ? item : item == -1 ? a : item == -2 ? b : c;
-                    top++;
+                    // a row tells at most as many numbers as the stack can hold
+                    if (top < TAPE_SIZE) {
+                        stack[top] = item >= 0 ? item : item == -1 ? a : item == -2 ? b : c;
+                        top++;
+                    }
                 } else if (item == -'!' && top > 0) {
                     stack[top - 1] = stack[top - 1] == 0 ? 1 : 0;
                 } else if (top > 1) {

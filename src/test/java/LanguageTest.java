@@ -20,6 +20,7 @@ public final class LanguageTest {
         String source = Files.readString(Path.of("src/main/java/AshLoans.java"), StandardCharsets.UTF_8);
         words(source);
         face();
+        faceOfTheDocument();
         inside();
         methodLengths(source);
         System.out.println(seen + " rules looked at, " + wrong + " broken");
@@ -87,6 +88,39 @@ public final class LanguageTest {
             }
         }
         fields(AshLoans.class, true);
+    }
+
+    /** The lines of "The public face" in the document against the class: each is there, and nothing else is open. */
+    private static void faceOfTheDocument() throws Exception {
+        String doc = Files.readString(Path.of("../shared/DOC.md"), StandardCharsets.UTF_8);
+        int begin = doc.indexOf("public final class AshLoans {");
+        int end = doc.indexOf("```", begin);
+        holds(begin >= 0 && end > begin, "the document shows a face");
+        Set<String> due = new HashSet<>();
+        Matcher line = Pattern.compile("public (int )?(\\w+)\\(([^)]*)\\);").matcher(doc.substring(begin, end));
+        while (line.find()) {
+            String types = line.group(3).replaceAll("(\\w+) \\w+", "$1").replace(" ", "");
+            due.add((line.group(1) == null ? "" : line.group(1)) + line.group(2) + "(" + types + ")");
+        }
+        Set<String> open = new HashSet<>();
+        for (Method method : AshLoans.class.getDeclaredMethods()) {
+            if (Modifier.isPublic(method.getModifiers()) && !Modifier.isStatic(method.getModifiers())) {
+                open.add(method.getReturnType() + " " + method.getName() + types(method.getParameterTypes()));
+            }
+        }
+        for (Constructor<?> maker : AshLoans.class.getConstructors()) {
+            open.add(maker.getName() + types(maker.getParameterTypes()));
+        }
+        holds(due.size() == Calls.NAMES.length + 1, "the document's face is read whole");
+        holds(open.equals(due), "the class has the document's face");
+    }
+
+    private static String types(Class<?>[] types) {
+        StringBuilder text = new StringBuilder("(");
+        for (Class<?> type : types) {
+            text.append(text.length() > 1 ? "," : "").append(type.getName());
+        }
+        return text.append(")").toString();
     }
 
     private static void fields(Class<?> type, boolean mustBePrivate) {
